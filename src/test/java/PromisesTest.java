@@ -504,6 +504,9 @@ public final class PromisesTest {
         x.mergeWithParameter(0, 1);
         x.mergeWithParameter(2, 3);
         // Blocks 4 and 5 are COPY 1 from 7; blocks 0 to 3 are CONST 7.
+        x.setReturn(0, 0);
+        x.setReturn(1, 0);
+        due("only writes of register 7 differ", x.parameterTail(0, 1), DIFFERENT);
         for (int block = 0; block < 6; block++) {
             x.setReturn(block, 0);
             x.addInstruction(block, CONST, 2, block, 0, 0);
@@ -590,6 +593,11 @@ public final class PromisesTest {
         due("negative", x.tailSaving(-1), NO_SUCH_BLOCK);
         due("least", x.tailSaving(MIN), NO_SUCH_BLOCK);
         due("greatest", x.tailSaving(MAX), NO_SUCH_BLOCK);
+        TailMerger mixed = withBlocks(3);
+        mixed.setJumpCost(5);
+        mixed.setBranch(1, 0, 0, 0);
+        mixed.setBranch(2, 0, 0, 0);
+        due("the terminator of the set's own blocks", mixed.tailSaving(6), -8);
         TailMerger full = withBlocks(12);
         due("all twelve", full.tailSaving(4095), -1);
         due("block 12 of twelve", full.tailSaving(4096), NO_SUCH_BLOCK);
@@ -657,6 +665,9 @@ public final class PromisesTest {
             }
         }
         due("other block stays", x.terminatorKind(2), BRANCH);
+        x.setJump(2, 4);
+        due("the jump is as any other", x.commonTail(0, 2), 0);
+        due("the jump's hash", x.tailHash(0, 0), hash(JUMP, 4, 0, 0));
 
         TailMerger empty = withBlocks(2);
         empty.setJumpCost(0);
@@ -1009,6 +1020,10 @@ public final class PromisesTest {
         due("two blocks", x.blockCount(), 2);
         due("overwritten slot 0", x.restore(0), 1);
         due("three blocks", x.blockCount(), 3);
+        TailMerger full = withBlocks(12);
+        due("twelve blocks", full.save(1), 1);
+        due("twelve blocks back", full.restore(1), 1);
+        due("all twelve", full.blockCount(), 12);
     }
 
     private static void restore() {
