@@ -1,15 +1,5 @@
 /** One method a promise of the document, with its edges, its wrong inputs and the order of its errors. */
-public final class PromisesTest {
-    private static final Check CHECK = new Check();
-    private static final int NO_SUCH_BLOCK = -1001, NO_SUCH_INSTRUCTION = -1002, OUT_OF_RANGE = -1003,
-            FULL = -1004, DIFFERENT = -1005, NOT_PROFITABLE = -1006, TIMEOUT = -1007, NONE = -1008,
-            NOT_SAVED = -1009;
-    private static final int CONST = 0, COPY = 1, ADD = 2, SUB = 3, MUL = 4, LESS = 5, EMIT = 6;
-    private static final int JUMP = 0, BRANCH = 1, RETURN = 2;
-    private static final int MIN = Integer.MIN_VALUE, MAX = Integer.MAX_VALUE;
-
-    private static String promise = "";
-
+public final class PromisesTest extends TestHelp {
     public static void main(String[] args) {
         newObject();
         addBlock();
@@ -49,51 +39,10 @@ public final class PromisesTest {
         CHECK.finish();
     }
 
-    // ---- helpers ----
-
-    private static void due(String what, int got, int want) {
-        CHECK.due(promise + ": " + what, got, want);
-    }
-
-    private static TailMerger withBlocks(int count) {
-        TailMerger x = new TailMerger();
-        for (int block = 0; block < count; block++) {
-            x.addBlock();
-        }
-        return x;
-    }
-
-    /** Adds EMITs of the registers, from the first to the last. */
-    private static void emits(TailMerger x, int block, int... registers) {
-        for (int register : registers) {
-            x.addInstruction(block, EMIT, 0, register, 0, block);
-        }
-    }
-
-    /** Checks opcode, destination, operands and line set of one instruction. */
-    private static void dueInstruction(TailMerger x, int block, int index, int... want) {
-        String where = " of " + block + "," + index;
-        due("opcode" + where, x.opcode(block, index), want[0]);
-        due("destination" + where, x.destination(block, index), want[1]);
-        due("operandA" + where, x.operandA(block, index), want[2]);
-        due("operandB" + where, x.operandB(block, index), want[3]);
-        due("lines" + where, x.lines(block, index), want[4]);
-    }
-
-    private static void dueJump(TailMerger x, int block, int target) {
-        due("terminatorKind of " + block, x.terminatorKind(block), JUMP);
-        due("target of " + block, x.terminatorOperand(block, 0), target);
-    }
-
-    private static void dueReturn(TailMerger x, int block, int register) {
-        due("terminatorKind of " + block, x.terminatorKind(block), RETURN);
-        due("returned register of " + block, x.terminatorOperand(block, 0), register);
-    }
-
     // ---- building ----
 
     private static void newObject() {
-        promise = "promise 1";
+        CHECK.sentence("promise 1");
         TailMerger x = new TailMerger();
         due("no blocks", x.blockCount(), 0);
         due("no code", x.codeSize(), 0);
@@ -113,7 +62,7 @@ public final class PromisesTest {
     }
 
     private static void addBlock() {
-        promise = "promise 2";
+        CHECK.sentence("promise 2");
         TailMerger x = new TailMerger();
         for (int block = 0; block < 12; block++) {
             due("block", x.addBlock(), block);
@@ -136,7 +85,7 @@ public final class PromisesTest {
     }
 
     private static void addInstruction() {
-        promise = "promise 3";
+        CHECK.sentence("promise 3");
         TailMerger x = withBlocks(3);
         due("CONST, lowest", x.addInstruction(1, CONST, 0, -999, 0, 0), 0);
         due("CONST, highest", x.addInstruction(1, CONST, 6, 999, 0, 30), 1);
@@ -168,7 +117,7 @@ public final class PromisesTest {
     }
 
     private static void addInstructionWrong() {
-        promise = "promise 3";
+        CHECK.sentence("promise 3");
         TailMerger x = withBlocks(1);
         int[] badRegisters = {-1, 7, 8, MIN, MAX};
         for (int bad : badRegisters) {
@@ -198,7 +147,7 @@ public final class PromisesTest {
     }
 
     private static void setJump() {
-        promise = "promise 4";
+        CHECK.sentence("promise 4");
         TailMerger x = withBlocks(3);
         due("on a return", x.setJump(0, 2), RETURN);
         dueJump(x, 0, 2);
@@ -218,7 +167,7 @@ public final class PromisesTest {
     }
 
     private static void setBranch() {
-        promise = "promise 5";
+        CHECK.sentence("promise 5");
         TailMerger x = withBlocks(3);
         due("on a return", x.setBranch(0, 6, 1, 2), RETURN);
         due("kind", x.terminatorKind(0), BRANCH);
@@ -240,7 +189,7 @@ public final class PromisesTest {
     }
 
     private static void setReturn() {
-        promise = "promise 6";
+        CHECK.sentence("promise 6");
         TailMerger x = withBlocks(2);
         due("on a return", x.setReturn(1, 6), RETURN);
         dueReturn(x, 1, 6);
@@ -259,7 +208,7 @@ public final class PromisesTest {
     // ---- reading ----
 
     private static void blockCount() {
-        promise = "promise 7";
+        CHECK.sentence("promise 7");
         TailMerger x = withBlocks(3);
         due("three", x.blockCount(), 3);
         emits(x, 0, 1, 2);
@@ -270,7 +219,7 @@ public final class PromisesTest {
     }
 
     private static void instructionCount() {
-        promise = "promise 8";
+        CHECK.sentence("promise 8");
         TailMerger x = withBlocks(2);
         emits(x, 1, 0, 0, 0);
         due("none", x.instructionCount(0), 0);
@@ -288,33 +237,33 @@ public final class PromisesTest {
                 {MAX, MAX, NO_SUCH_BLOCK}, {MIN, MIN, NO_SUCH_BLOCK}, {1, 1, NO_SUCH_INSTRUCTION},
                 {1, -1, NO_SUCH_INSTRUCTION}, {0, 0, NO_SUCH_INSTRUCTION}, {1, 10, NO_SUCH_INSTRUCTION},
                 {1, MAX, NO_SUCH_INSTRUCTION}, {1, MIN, NO_SUCH_INSTRUCTION}};
-        promise = "promise 9";
+        CHECK.sentence("promise 9");
         due("opcode", x.opcode(1, 0), SUB);
-        promise = "promise 10";
+        CHECK.sentence("promise 10");
         due("destination", x.destination(1, 0), 1);
-        promise = "promise 11";
+        CHECK.sentence("promise 11");
         due("operand a", x.operandA(1, 0), 2);
-        promise = "promise 12";
+        CHECK.sentence("promise 12");
         due("operand b", x.operandB(1, 0), 3);
-        promise = "promise 13";
+        CHECK.sentence("promise 13");
         due("line set", x.lines(1, 0), 16);
         for (int[] row : wrong) {
             String what = row[0] + "," + row[1];
-            promise = "promise 9";
+            CHECK.sentence("promise 9");
             due(what, x.opcode(row[0], row[1]), row[2]);
-            promise = "promise 10";
+            CHECK.sentence("promise 10");
             due(what, x.destination(row[0], row[1]), row[2]);
-            promise = "promise 11";
+            CHECK.sentence("promise 11");
             due(what, x.operandA(row[0], row[1]), row[2]);
-            promise = "promise 12";
+            CHECK.sentence("promise 12");
             due(what, x.operandB(row[0], row[1]), row[2]);
-            promise = "promise 13";
+            CHECK.sentence("promise 13");
             due(what, x.lines(row[0], row[1]), row[2]);
         }
     }
 
     private static void terminatorKind() {
-        promise = "promise 14";
+        CHECK.sentence("promise 14");
         TailMerger x = withBlocks(3);
         x.setJump(0, 1);
         x.setBranch(1, 0, 1, 2);
@@ -326,7 +275,7 @@ public final class PromisesTest {
     }
 
     private static void terminatorOperand() {
-        promise = "promise 15";
+        CHECK.sentence("promise 15");
         TailMerger x = withBlocks(4);
         x.setJump(0, 3);
         x.setBranch(1, 4, 2, 3);
@@ -351,17 +300,8 @@ public final class PromisesTest {
 
     // ---- tails ----
 
-    /** The hash of promise 16 over a row of numbers. */
-    private static int hash(int... numbers) {
-        int h = 17;
-        for (int number : numbers) {
-            h = 31 * h + number;
-        }
-        return h < 0 ? h - Integer.MIN_VALUE : h;
-    }
-
     private static void tailHash() {
-        promise = "promise 16";
+        CHECK.sentence("promise 16");
         TailMerger x = withBlocks(3);
         x.addInstruction(0, CONST, 3, -999, 0, 1);
         x.addInstruction(0, LESS, 4, 5, 6, 2);
@@ -383,9 +323,9 @@ public final class PromisesTest {
             y.addInstruction(0, CONST, 6, -number, 0, 0);
             int want = hash(0, 0, number, 0, 0, 6, -number, 0, 2, 0, 0, 0);
             due("two CONST", y.tailHash(0, 2), want);
-            seenBoth |= want != raw(0, 0, number, 0, 0, 6, -number, 0, 2, 0, 0, 0);
+            seenBoth |= want != unclearedHash(0, 0, number, 0, 0, 6, -number, 0, 2, 0, 0, 0);
         }
-        CHECK.holds("promise 16: a hash with a cleared sign bit was seen", seenBoth);
+        CHECK.holds("a hash with a cleared sign bit was seen", seenBoth);
         due("length -1", x.tailHash(0, -1), OUT_OF_RANGE);
         due("too long", x.tailHash(0, 3), OUT_OF_RANGE);
         due("least length", x.tailHash(0, MIN), OUT_OF_RANGE);
@@ -394,16 +334,8 @@ public final class PromisesTest {
         due("negative block", x.tailHash(-1, 0), NO_SUCH_BLOCK);
     }
 
-    private static int raw(int... numbers) {
-        int h = 17;
-        for (int number : numbers) {
-            h = 31 * h + number;
-        }
-        return h;
-    }
-
     private static void commonTail() {
-        promise = "promise 17";
+        CHECK.sentence("promise 17");
         TailMerger x = withBlocks(4);
         emits(x, 0, 1, 2, 3);
         emits(x, 1, 0, 2, 3);
@@ -449,7 +381,7 @@ public final class PromisesTest {
     }
 
     private static void parameterTail() {
-        promise = "promise 18";
+        CHECK.sentence("promise 18");
         TailMerger x = withBlocks(3);
         emits(x, 0, 5, 4);
         x.addInstruction(0, CONST, 1, 7, 0, 0);
@@ -496,7 +428,7 @@ public final class PromisesTest {
     }
 
     private static void parameterTailAndRegister7() {
-        promise = "promise 18";
+        CHECK.sentence("promise 18");
         TailMerger x = withBlocks(4);
         for (int block = 0; block < 4; block++) {
             x.addInstruction(block, CONST, 1, 10 * block, 0, 0);
@@ -529,7 +461,7 @@ public final class PromisesTest {
     // ---- size and merges ----
 
     private static void setJumpCost() {
-        promise = "promise 19";
+        CHECK.sentence("promise 19");
         TailMerger x = withBlocks(1);
         x.setJump(0, 0);
         due("first", x.setJumpCost(5), 1);
@@ -544,7 +476,7 @@ public final class PromisesTest {
     }
 
     private static void codeSize() {
-        promise = "promise 20";
+        CHECK.sentence("promise 20");
         TailMerger x = new TailMerger();
         due("no blocks", x.codeSize(), 0);
         x.addBlock();
@@ -564,7 +496,7 @@ public final class PromisesTest {
     }
 
     private static void tailSaving() {
-        promise = "promise 21";
+        CHECK.sentence("promise 21");
         TailMerger x = withBlocks(4);
         emits(x, 0, 3, 1, 2);
         emits(x, 1, 3, 1, 2);
@@ -605,7 +537,7 @@ public final class PromisesTest {
     }
 
     private static void bestTail() {
-        promise = "promise 22";
+        CHECK.sentence("promise 22");
         due("no blocks", new TailMerger().bestTail(), NONE);
         due("one block", withBlocks(1).bestTail(), NONE);
         due("savings of 0 and less", withBlocks(3).bestTail(), NONE);
@@ -639,7 +571,7 @@ public final class PromisesTest {
     }
 
     private static void mergeTail() {
-        promise = "promise 23";
+        CHECK.sentence("promise 23");
         TailMerger x = withBlocks(4);
         for (int block = 0; block < 4; block++) {
             if (block != 2) {
@@ -690,7 +622,7 @@ public final class PromisesTest {
     }
 
     private static void mergeTailErrors() {
-        promise = "promise 23";
+        CHECK.sentence("promise 23");
         TailMerger x = withBlocks(3);
         emits(x, 0, 1);
         emits(x, 1, 1);
@@ -718,7 +650,7 @@ public final class PromisesTest {
     }
 
     private static void parameterSaving() {
-        promise = "promise 24";
+        CHECK.sentence("promise 24");
         TailMerger x = withBlocks(3);
         x.addInstruction(0, CONST, 1, 1, 0, 0);
         x.addInstruction(1, CONST, 1, 2, 0, 0);
@@ -737,7 +669,7 @@ public final class PromisesTest {
     }
 
     private static void mergeWithParameter() {
-        promise = "promise 25";
+        CHECK.sentence("promise 25");
         TailMerger x = withBlocks(2);
         for (int block = 0; block < 2; block++) {
             x.addInstruction(block, EMIT, 0, 4 + block, 0, 8 + block);
@@ -766,7 +698,7 @@ public final class PromisesTest {
     }
 
     private static void mergeWithParameterErrors() {
-        promise = "promise 25";
+        CHECK.sentence("promise 25");
         TailMerger x = withBlocks(12);
         x.addInstruction(0, CONST, 1, 1, 0, 0);
         x.addInstruction(1, CONST, 1, 2, 0, 0);
@@ -790,7 +722,7 @@ public final class PromisesTest {
     }
 
     private static void mergeAll() {
-        promise = "promise 26";
+        CHECK.sentence("promise 26");
         due("no blocks", new TailMerger().mergeAll(), 0);
         TailMerger x = withBlocks(4);
         emits(x, 0, 0, 1, 2, 3);
@@ -819,7 +751,7 @@ public final class PromisesTest {
     }
 
     private static void mergeAllStopsWhenFull() {
-        promise = "promise 26";
+        CHECK.sentence("promise 26");
         TailMerger x = withBlocks(10);
         for (int pair = 0; pair < 5; pair++) {
             emits(x, 2 * pair, pair, pair, pair, pair);
@@ -834,7 +766,7 @@ public final class PromisesTest {
     // ---- running ----
 
     private static void setRegister() {
-        promise = "promise 27";
+        CHECK.sentence("promise 27");
         TailMerger x = withBlocks(1);
         for (int register = 0; register < 7; register++) {
             due("register " + register, x.setRegister(register, MIN + register), 1);
@@ -852,7 +784,7 @@ public final class PromisesTest {
     }
 
     private static void run() {
-        promise = "promise 28";
+        CHECK.sentence("promise 28");
         TailMerger x = new TailMerger();
         due("no blocks", x.run(1), NO_SUCH_BLOCK);
         due("range before blocks, 0", x.run(0), OUT_OF_RANGE);
@@ -923,7 +855,7 @@ public final class PromisesTest {
     }
 
     private static void runOpcodes() {
-        promise = "promise 28";
+        CHECK.sentence("promise 28");
         int[][] cases = {{ADD, MAX, 1, MIN}, {ADD, 2, 3, 5}, {SUB, 2, 3, -1}, {SUB, MIN, 1, MAX},
                 {MUL, 65536, 65536, 0}, {MUL, MAX, 2, -2}, {MUL, -3, 5, -15}, {LESS, 1, 2, 1},
                 {LESS, 2, 2, 0}, {LESS, 3, 2, 0}, {LESS, MIN, MAX, 1}, {LESS, MAX, MIN, 0},
@@ -944,7 +876,7 @@ public final class PromisesTest {
     }
 
     private static void traceLength() {
-        promise = "promise 29";
+        CHECK.sentence("promise 29");
         TailMerger x = withBlocks(1);
         due("no run", x.traceLength(), 0);
         for (int index = 0; index < 10; index++) {
@@ -959,7 +891,7 @@ public final class PromisesTest {
     }
 
     private static void trace() {
-        promise = "promise 30";
+        CHECK.sentence("promise 30");
         TailMerger x = withBlocks(1);
         due("no run", x.trace(0), 0);
         x.addInstruction(0, ADD, 0, 0, 1, 0);
@@ -986,7 +918,7 @@ public final class PromisesTest {
     }
 
     private static void register() {
-        promise = "promise 31";
+        CHECK.sentence("promise 31");
         TailMerger x = withBlocks(1);
         x.setRegister(6, 9);
         due("no run", x.register(6), 0);
@@ -1005,7 +937,7 @@ public final class PromisesTest {
     // ---- saving ----
 
     private static void save() {
-        promise = "promise 32";
+        CHECK.sentence("promise 32");
         TailMerger x = withBlocks(1);
         due("slot 0", x.save(0), 1);
         due("slot 2", x.save(2), OUT_OF_RANGE);
@@ -1027,7 +959,7 @@ public final class PromisesTest {
     }
 
     private static void restore() {
-        promise = "promise 33";
+        CHECK.sentence("promise 33");
         TailMerger x = withBlocks(3);
         x.addInstruction(0, SUB, 1, 2, 3, 4);
         x.addInstruction(0, EMIT, 0, 1, 0, 5);
