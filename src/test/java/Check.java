@@ -14,6 +14,15 @@ final class Check {
         Thread watch = new Thread(Check::endLate);
         watch.setDaemon(true);
         watch.start();
+        Thread.setDefaultUncaughtExceptionHandler((thread, thrown) -> endThrown(thrown));
+    }
+
+    /** A call that throws belongs to the sentence that was being checked. */
+    private void endThrown(Throwable thrown) {
+        System.out.println(sentence + "a call threw " + thrown);
+        thrown.printStackTrace();
+        System.out.flush();
+        Runtime.getRuntime().halt(1);
     }
 
     private static void endLate() {

@@ -85,21 +85,23 @@ public final class FaceTest {
         CHECK.holds("the methods " + found, found.equals(METHODS));
     }
 
-    /** No method of the class or of a class inside it bears the name of a public one. */
+    /** No private method of the class or of a class inside it bears the name of a public one. */
     private static void checkNames() {
         Set<String> others = new TreeSet<>();
-        for (Method method : TailMerger.class.getDeclaredMethods()) {
-            if (!Modifier.isPublic(method.getModifiers())) {
-                others.add(method.getName());
-            }
-        }
+        addPrivateNames(others, TailMerger.class);
         for (Class<?> inside : TailMerger.class.getDeclaredClasses()) {
             CHECK.holds(inside + " is static", Modifier.isStatic(inside.getModifiers()));
-            for (Method method : inside.getDeclaredMethods()) {
-                others.add(method.getName());
-            }
+            addPrivateNames(others, inside);
         }
         others.retainAll(METHODS.keySet());
         CHECK.holds("no name twice: " + others, others.isEmpty());
+    }
+
+    private static void addPrivateNames(Set<String> names, Class<?> of) {
+        for (Method method : of.getDeclaredMethods()) {
+            if (Modifier.isPrivate(method.getModifiers())) {
+                names.add(method.getName());
+            }
+        }
     }
 }

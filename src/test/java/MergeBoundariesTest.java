@@ -7,6 +7,7 @@ public final class MergeBoundariesTest extends TestHelp {
         codeSizes();
         setBits();
         savingFormula();
+        savingOfCommonTerminator();
         savingNegative();
         savingNoBlock();
         savingNoBlockFirst();
@@ -125,9 +126,17 @@ public final class MergeBoundariesTest extends TestHelp {
         for (int block = 1; block < 12; block++) {
             TailMerger x = withBlocks(12);
             emits(x, 0, 1, 2, 3);
-            emits(x, block, 1, 2, 3);
-            due("saving of 0 and " + block, x.tailSaving(1 | 1 << block), 2);
+            emits(x, block, 2, 3);
+            due("saving of 0 and " + block, x.tailSaving(1 | 1 << block), 1);
             due("best is 0 and " + block, x.bestTail(), 1 | 1 << block);
+        }
+        for (int block = 1; block < 11; block++) {
+            TailMerger x = alike(11, 1, 2);
+            x.mergeTail(1 | 1 << block);
+            for (int any = 0; any < 11; any++) {
+                due("merge of 0 and " + block + ", kind of " + any, x.terminatorKind(any),
+                        any == 0 || any == block ? JUMP : RETURN);
+            }
         }
     }
 
@@ -146,6 +155,22 @@ public final class MergeBoundariesTest extends TestHelp {
                     }
                 }
             }
+        }
+    }
+
+    /** Blocks 0 and 3 are not in the set, and end unlike it. */
+    private static void savingOfCommonTerminator() {
+        sentence("TAIL MERGE", "where t is the cost of the common terminator and j is the jump cost");
+        for (int kind = JUMP; kind <= RETURN; kind++) {
+            TailMerger x = alike(4, 1, 2, 3);
+            endAll(x, 4, kind);
+            x.setReturn(0, 0);
+            x.setReturn(3, 0);
+            x.setJumpCost(4);
+            due("kind " + kind, x.tailSaving(6), 3 + (kind == JUMP ? 4 : kind == BRANCH ? 2 : 1) - 8);
+            x.setBranch(0, 0, 0, 0);
+            x.setBranch(3, 0, 0, 0);
+            due("kind " + kind, x.tailSaving(6), 3 + (kind == JUMP ? 4 : kind == BRANCH ? 2 : 1) - 8);
         }
     }
 

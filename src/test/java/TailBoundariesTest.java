@@ -12,6 +12,7 @@ public final class TailBoundariesTest extends TestHelp {
         equalInstructions();
         lineSetsDoNotMatter();
         equalTerminators();
+        terminatorsBeforeDoNotMatter();
         commonTailDoesNotExist();
         commonTailOfThreeDoesNotExist();
         commonTailIsGreatest();
@@ -156,6 +157,7 @@ public final class TailBoundariesTest extends TestHelp {
             x.addInstruction(0, pair[0], pair[1], pair[2], pair[3], 0);
             x.addInstruction(1, pair[4], pair[5], pair[6], pair[7], 0);
             due("opcodes " + pair[0] + " and " + pair[4], x.commonTail(0, 1), 0);
+            due("opcodes " + pair[4] + " and " + pair[0], x.commonTail(1, 0), 0);
         }
         for (int opcode = CONST; opcode <= EMIT; opcode++) {
             int d = opcode == EMIT ? 0 : 6;
@@ -188,15 +190,24 @@ public final class TailBoundariesTest extends TestHelp {
         x.setBranch(0, 6, 0, 1);
         x.setBranch(1, 6, 0, 1);
         due("branches", x.commonTail(0, 1), 0);
-        // What a terminator was before must not be compared.
-        x.setJump(0, 1);
+    }
+
+    private static void terminatorsBeforeDoNotMatter() {
+        sentence("EQUALITY", "Two terminators are equal if their kinds are equal and all their operands are equal.");
+        TailMerger x = withBlocks(3);
+        x.setBranch(0, 6, 1, 2);
+        x.setReturn(0, 0);
+        x.setJump(1, 2);
         x.setReturn(1, 0);
-        x.setJump(1, 1);
-        due("jumps made of a branch and of a return", x.commonTail(0, 1), 0);
-        x.setBranch(0, 6, 0, 1);
-        x.setReturn(0, 1);
-        x.setReturn(1, 1);
         due("returns made of a branch and of a jump", x.commonTail(0, 1), 0);
+        due("returns made of a branch and with the block", x.commonTail(0, 2), 0);
+        x.setBranch(0, 6, 1, 2);
+        x.setJump(0, 2);
+        x.setJump(1, 2);
+        due("jumps made of a branch and of a return", x.commonTail(0, 1), 0);
+        x.setBranch(1, 6, 2, 1);
+        x.setJump(1, 2);
+        due("jumps made of unlike branches", x.commonTail(0, 1), 0);
     }
 
     private static void commonTailDoesNotExist() {
